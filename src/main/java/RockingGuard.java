@@ -142,14 +142,17 @@ public final class RockingGuard {
 
     public int text() {
         int number = now.texts;
-        Script script = scriptAt(number);
-        if (script == null) {
+        if (!isWithin(number, 0, MOST_TEXTS - 1)) {
             return NONE;
         }
-        reader.readInto(script);
+        reader.readTape();
         if (reader.fault != 0) {
             return NONE;
         }
+        // The draft and the free place change hands, so that reading never writes over a text.
+        Script free = scripts[number];
+        scripts[number] = reader.draft;
+        reader.draft = free;
         now.texts = number + 1;
         return number;
     }
@@ -209,7 +212,7 @@ public final class RockingGuard {
             return false;
         }
         now.steps.save(terrace);
-        terrace.reset(horse, shift);
+        terrace.shiftTo(horse, shift);
         return true;
     }
 
@@ -996,7 +999,7 @@ public final class RockingGuard {
             return isHorse(h) && isWithin(shift, 0, beatOf(h) - 1) && shift != shiftOf(h);
         }
 
-        void reset(int h, int shift) {
+        void shiftTo(int h, int shift) {
             if (canNail(h, shift)) {
                 row[AT_SHIFT + h] = shift;
             }
@@ -1240,7 +1243,7 @@ public final class RockingGuard {
         int tokens = 0;
         int at = 0;
         int law = NONE;
-        Script script = null;
+        Script draft = new Script();
         boolean hasRead = false;
         int fault = 0;
         int place = NONE;
@@ -1272,9 +1275,8 @@ public final class RockingGuard {
             return n;
         }
 
-        void readInto(Script into) {
-            script = into;
-            script.wipe();
+        void readTape() {
+            draft.wipe();
             hasRead = true;
             fault = 0;
             place = NONE;
@@ -1426,9 +1428,9 @@ public final class RockingGuard {
             int kind = kind();
             if (!isWithin(kind, WEARS, MINUTE)) {
                 refuse(1);
-            } else if (script.has(kind)) {
+            } else if (draft.has(kind)) {
                 refuse(4);
-            } else if (script.clauses >= MOST_CLAUSES) {
+            } else if (draft.clauses >= MOST_CLAUSES) {
                 refuse(6);
             } else {
                 at++;
@@ -1443,10 +1445,10 @@ public final class RockingGuard {
 
         private void readLaw(int kind) {
             law = kind;
-            script.addClause(kind, 0, 0);
-            script.beginLaw(kind);
+            draft.addClause(kind, 0, 0);
+            draft.beginLaw(kind);
             readSum(0);
-            script.endLaw(kind);
+            draft.endLaw(kind);
         }
 
         private void readOrder(int kind) {
@@ -1460,7 +1462,7 @@ public final class RockingGuard {
                 expect(BETWEEN[i]);
                 second = readNumber(0, kind == HORSE ? first - 1 : SECOND_MOST[i]);
             }
-            script.addClause(kind, first, second);
+            draft.addClause(kind, first, second);
         }
 
         /** Goes past a TOKEN that opens, unless too many are open already. */
@@ -1478,7 +1480,7 @@ public final class RockingGuard {
                 int order = kind();
                 at++;
                 readProduct(depth);
-                script.addOrder(order, 0);
+                draft.addOrder(order, 0);
             }
         }
 
@@ -1488,7 +1490,7 @@ public final class RockingGuard {
                 int order = kind();
                 at++;
                 readOne(depth);
-                script.addOrder(order, 0);
+                draft.addOrder(order, 0);
             }
         }
 
@@ -1498,7 +1500,7 @@ public final class RockingGuard {
             }
             int kind = kind();
             if (kind == NUMBER) {
-                script.addOrder(NUMBER, readNumber(0, HIGHEST_NUMBER));
+                draft.addOrder(NUMBER, readNumber(0, HIGHEST_NUMBER));
             } else if (kind == OPEN) {
                 open(depth);
                 readInside(depth + 1);
@@ -1506,7 +1508,7 @@ public final class RockingGuard {
             } else if (kind == MINUS || kind == SIGN || kind == BEAT) {
                 open(depth);
                 readOneInside(depth + 1);
-                script.addOrder(kind == MINUS ? NEGATE : kind, 0);
+                draft.addOrder(kind == MINUS ? NEGATE : kind, 0);
             } else if (kind == IF) {
                 open(depth);
                 readChoice(depth + 1);
@@ -1533,7 +1535,7 @@ public final class RockingGuard {
             } else if (!isWithin(law, 0, LAWS - 1) || name > LAST_NAME[law]) {
                 refuse(5);
             } else {
-                script.addOrder(NAME, name);
+                draft.addOrder(NAME, name);
                 at++;
             }
         }
@@ -1556,14 +1558,14 @@ public final class RockingGuard {
         private void readChoice(int depth) {
             readEither(depth);
             expect(THEN);
-            int past = script.addOrder(UNLESS, 0);
+            int past = draft.addOrder(UNLESS, 0);
             readInside(depth);
             expect(ELSE);
-            int out = script.addOrder(JUMP, 0);
-            script.leadHere(past);
+            int out = draft.addOrder(JUMP, 0);
+            draft.leadHere(past);
             readInside(depth);
             expect(END);
-            script.leadHere(out);
+            draft.leadHere(out);
         }
 
         private void readEither(int depth) {
@@ -1571,7 +1573,7 @@ public final class RockingGuard {
             for (int i = 0; i < MOST_BYTES && fault == 0 && kind() == OR; i++) {
                 at++;
                 readBoth(depth);
-                script.addOrder(OR, 0);
+                draft.addOrder(OR, 0);
             }
         }
 
@@ -1580,7 +1582,7 @@ public final class RockingGuard {
             for (int i = 0; i < MOST_BYTES && fault == 0 && kind() == AND; i++) {
                 at++;
                 readAsk(depth);
-                script.addOrder(AND, 0);
+                draft.addOrder(AND, 0);
             }
         }
 
@@ -1591,7 +1593,7 @@ public final class RockingGuard {
             if (kind() == NOT) {
                 open(depth);
                 readAsk(depth + 1);
-                script.addOrder(NOT, 0);
+                draft.addOrder(NOT, 0);
                 return;
             }
             readSum(depth);
@@ -1601,7 +1603,7 @@ public final class RockingGuard {
             } else if (fault == 0) {
                 at++;
                 readSum(depth);
-                script.addOrder(order, 0);
+                draft.addOrder(order, 0);
             }
         }
     }
