@@ -2,6 +2,7 @@
 final class Due {
     private static int wrong = 0;
     private static int asked = 0;
+    private static String where = "";
 
     private Due() {
     }
@@ -10,12 +11,21 @@ final class Due {
         asked++;
         if (got != want) {
             wrong++;
-            System.out.println(call + " answered " + got + ", due is " + want);
+            System.out.println(where + call + " answered " + got + ", due is " + want);
         }
     }
 
     static void is(String call, boolean got, boolean want) {
         is(call, got ? 1 : 0, want ? 1 : 0);
+    }
+
+    /** What the answers from here on are held against, told with each that is not as due. */
+    static void from(String place) {
+        where = place + ": ";
+    }
+
+    static int asked() {
+        return asked;
     }
 
     /** Ends the test, with exit code 1 if an answer was not as due. */
