@@ -57,6 +57,34 @@ public final class SaidFourTest {
         for (int i = 0; i < 6; i++) full.boy(5);
         for (int i = 0; i < 6; i++) full.watch(0, 5, 5);
         Due.is("six", full.manned(-1), 6);
+        // A watch that must stay without a boy is no hindrance to those behind it.
+        RockingGuard gap = Scene.horses(2);
+        gap.boy(5);
+        gap.boy(7);
+        gap.watch(0, 5, 5);
+        gap.watch(0, 5, 5);
+        gap.watch(0, 7, 7);
+        Due.is("two of three", gap.manned(-1), 2);
+        Due.is("the first", gap.manned(0), 0);
+        Due.is("the second has none", gap.manned(1), -1);
+        Due.is("the third", gap.manned(2), 1);
+        gap.watch(-1, 0, 0);
+        gap.watch(0, 1, 1);
+        gap.watch(0, 9, 9);
+        gap.watch(0, 4, 6);
+        Due.is("one of three", gap.manned(-1), 1);
+        Due.is("none fits the first", gap.manned(0), -1);
+        Due.is("none fits the second", gap.manned(1), -1);
+        Due.is("boy 0 the third", gap.manned(2), 0);
+        gap.watch(-1, 0, 0);
+        gap.watch(0, 5, 5);
+        gap.watch(0, 7, 7);
+        Due.is("two of two", gap.manned(-1), 2);
+        gap.watch(-1, 0, 0);
+        gap.watch(0, 5, 5);
+        Due.is("one of one, whatever was asked before", gap.manned(-1), 1);
+        gap.watch(-1, 0, 0);
+        Due.is("none of none", gap.manned(-1), 0);
     }
 
     static void mannedLowest() {
@@ -203,6 +231,9 @@ public final class SaidFourTest {
         Due.is("ropes(2)", g.ropes(2), 10);
         Due.is("ropes(3)", g.ropes(3), 42);
         Due.is("ropes(4)", g.ropes(4), 43);
+        g.off(1);
+        Due.is("the worst has no boy: ropes(1)", g.ropes(1), 8);
+        Due.is("the worst has no boy: ropes(2)", g.ropes(2), 40);
         Due.is("WEAR 99", Scene.worn(99).ropes(1), 1);
     }
 
@@ -212,6 +243,7 @@ public final class SaidFourTest {
         Due.is("no WEAR, no ropes", none.ropes(8), 0);
         RockingGuard some = wearing(0, 4, 0, 4, 4, 0);
         Due.is("none for WEAR 0", some.ropes(8), 26);
+        Due.is("WEAR 1 is enough", wearing(0, 0, 1, 0, 0, 0).ropes(8), 4);
         Due.is("the lowest of three", some.ropes(1), 2);
         Due.is("the lowest two", some.ropes(2), 10);
     }
@@ -506,6 +538,11 @@ public final class SaidFourTest {
         // 321 does nothing (3 mod 6, not 0 mod 5); 1242: 0 mod 6; boy 0, HORSE 207 mod 4 = 3.
         g.winters(85, 2);
         Due.is("0 mod 6", g.ofBoy(0, 2), 3);
+        g.off(0);
+        // 327 does nothing; 3540: 0 mod 6, 0 mod 4 and 0 mod 5; boy 0, HORSE 590 mod 4 = 2.
+        g.winters(88, 2);
+        Due.is("0 mod 6 is no OFF", g.ofBoy(0, 2), 2);
+        Due.is("0 mod 6 is no oiling", g.is(3), 9);
         g.winters(0, 1);
         Due.is("one who is on it stays", g.ofBoy(1, 2), 1);
         Due.is("no MINUTE", g.is(0), 0);
@@ -528,6 +565,11 @@ public final class SaidFourTest {
         // 483 does nothing; 2306: 2 mod 6, but 2 mod 4; boy 2306 mod 3 = 2.
         g.winters(166, 2);
         Due.is("x mod 4 isn't 0", g.ofBoy(2, 2), 0);
+        Due.is("no MINUTE", g.is(0), 0);
+        // 501 does nothing; 9200: 2 mod 6, 0 mod 4 and 0 mod 5; boy 9200 mod 3 = 2.
+        g.winters(175, 2);
+        Due.is("he is OFF", g.ofBoy(2, 2), -1);
+        Due.is("nothing is OILED by it", g.is(3), 9);
         Due.is("no MINUTE", g.is(0), 0);
         Due.is("no boy who is on none", winter().winters(163, 2), 0);
     }
@@ -569,6 +611,37 @@ public final class SaidFourTest {
         Due.is("the last", late.winters(2, 1), 9999);
         Due.is("none can pass", late.winters(2, 1), 9999);
         Due.is("X goes on", late.is(4), 29137);
+    }
+
+    static void wintersOfOne() {
+        Said.at("V", "boy x mod how many there are MOUNTS HORSE x / 6 mod how many;");
+        RockingGuard g = Scene.horses(1);
+        g.boy(5);
+        g.winters(0, 1);
+        Due.is("the one boy on the one HORSE", g.ofBoy(0, 2), 0);
+        g.minute(3);
+        g.winters(7, 1);
+        Due.is("the one HORSE is OILED", g.ofHorse(0, 2), 0);
+        Due.is("OIL", g.is(3), 8);
+        g.winters(163, 2);
+        Due.is("the one boy is OFF", g.ofBoy(0, 2), -1);
+    }
+
+    static void wintersOfAll() {
+        Said.at("V", "x mod 6: 0, 1 boy x mod how many there are MOUNTS HORSE x / 6 mod how many;");
+        RockingGuard g = Scene.horses(1, 1, 1, 1, 1, 1, 1, 1);
+        for (int i = 0; i < 6; i++) g.boy(5);
+        // 151: 1 mod 6; boy 151 mod 6 = 1, HORSE 25 mod 8 = 1.
+        g.winters(0, 1);
+        Due.is("of six and eight", g.ofBoy(1, 2), 1);
+        g.off(1);
+        // 193: 1 mod 6; boy 193 mod 6 = 1, HORSE 32 mod 8 = 0.
+        g.winters(21, 1);
+        Due.is("of six and eight", g.ofBoy(1, 2), 0);
+        g.off(1);
+        // 187: 1 mod 6; HORSE 31 mod 8 = 7.
+        g.winters(18, 1);
+        Due.is("the last HORSE", g.ofBoy(1, 2), 7);
     }
 
     static void wintersWithout() {
@@ -663,6 +736,43 @@ public final class SaidFourTest {
             Due.is("OIL taken back", g.is(3), 9);
             spoil(g);
         }
+    }
+
+    static void backToTheLists() {
+        Said.at("V", "BACK: all is so again.");
+        RockingGuard g = Scene.horses(2, 2);
+        g.boy(5);
+        Due.text(g, "");
+        g.heard(0, 1);
+        g.watch(0, 5, 5);
+        g.haul(98);
+        g.haul(97);
+        g.counted(1, 8);
+        g.nail(1, 1);
+        g.image();
+        g.heard(-1, 0);
+        g.heard(1, 0);
+        g.watch(-1, 0, 0);
+        g.watch(1, 6, 9);
+        g.haul(-1);
+        g.haul(1);
+        g.haul(1);
+        g.counted(-1, 0);
+        g.counted(2, 9);
+        g.back();
+        Due.is("HEARD", g.rode(1), 1);
+        Due.is("HEARD", g.rode(2), 0);
+        Due.is("WATCHES", g.manned(0), 0);
+        Due.is("HAULS", g.oilings(0, true), 2);
+        Due.is("HAULS", g.oilings(1, true), 3);
+        Due.is("COUNTED", g.whose(), 1);
+        g.watch(-1, 0, 0);
+        g.watch(0, 1, 4);
+        g.image();
+        g.watch(-1, 0, 0);
+        g.watch(0, 1, 9);
+        g.back();
+        Due.is("WATCHES up to SIZE 4", g.manned(0), -1);
     }
 
     /** Changes all that an image holds. */

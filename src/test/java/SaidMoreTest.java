@@ -395,7 +395,8 @@ public final class SaidMoreTest {
         RockingGuard g = Scene.horses(9);
         for (int i = 1; i <= 44; i++) g.nail(0, i % 9);
         g.image();
-        for (int i = 0; i < 7; i++) g.nail(0, i % 2);
+        // As many as there can be, so that nothing of the IMAGE is left but in the IMAGE.
+        for (int i = 0; i < 30; i++) g.nail(0, i % 2);
         g.back();
         for (int i = 43; i >= 14; i--) {
             Due.is("undo()", g.undo(), i - 14);

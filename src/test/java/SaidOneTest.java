@@ -204,6 +204,68 @@ public final class SaidOneTest {
         Due.is("the latest: SNOW", g.book(29, 1), 1);
         Due.is("the latest: HORSES", g.book(29, 2), 1);
         Due.is("none behind it", g.book(30, 0), -2);
+        g.limit(2);
+        g.minute(3);
+        // What is pushed out is the eldest alone: 6, 8, .. 58, then 59, 60 and 62.
+        for (int i = 0; i < 27; i++) Due.is("MINUTE of " + i, g.book(i, 0), 6 + 2 * i);
+        for (int i = 27; i < 30; i++) Due.is("MINUTE of " + i, g.book(i, 0), i == 29 ? 62 : 32 + i);
+        Due.is("SNOW of one between", g.book(13, 1), 3);
+        Due.is("HORSES of one between", g.book(13, 2), 3);
+    }
+
+    /** All places of a full terrace are apart from one another. */
+    static void fullTerrace() {
+        Said.at("I", "HORSES 0 .. 7 (told one by one): BEAT 1 .. 9, SHIFT 0 .. 8 (below BEAT), WEAR 0 .. 99 (at first 0).");
+        RockingGuard g = new RockingGuard();
+        g.limit(8);
+        for (int h = 0; h < 8; h++) g.horse(9, h + 1);
+        for (int b = 0; b < 6; b++) {
+            g.boy(b + 2);
+            g.mount(b, b);
+        }
+        Due.rule(g, "wears horse+1;tires 0;");
+        g.minute(9);
+        for (int b = 4; b < 6; b++) {
+            g.off(b);
+            g.mount(b, b + 2);
+        }
+        g.minute(9);
+        Due.rule(g, "tires who+1;");
+        g.minute(1);
+        int[] wear = {2, 4, 6, 8, 5, 6, 7, 8};
+        for (int h = 0; h < 8; h++) {
+            Due.is("BEAT of " + h, g.ofHorse(h, 0), 9);
+            Due.is("SHIFT of " + h, g.ofHorse(h, 1), h + 1);
+            Due.is("WEAR of " + h, g.ofHorse(h, 2), wear[h]);
+        }
+        for (int b = 0; b < 6; b++) {
+            Due.is("SIZE of " + b, g.ofBoy(b, 0), b + 2);
+            Due.is("TIRED of " + b, g.ofBoy(b, 1), b + 1);
+            Due.is("the HORSE of " + b, g.ofBoy(b, 2), b < 4 ? b : b + 2);
+        }
+        Due.is("SNOW", g.is(1), 12);
+        Due.is("OIL", g.is(3), 9);
+    }
+
+    /** All of a full terrace is taken back. */
+    static void fullTerraceTakenBack() {
+        Said.at("I", "(SHIFTS, WEAR, TIRED, who is on what, SNOW, OIL, MINUTE, X, BOOK are as ahead of it;");
+        RockingGuard g = Scene.horses(2, 2, 2, 2, 2, 2, 2, 2);
+        for (int b = 0; b < 6; b++) g.boy(5);
+        g.mount(0, 0);
+        g.mount(5, 7);
+        g.minute(1);
+        g.undo();
+        Due.is("WEAR of the first", g.ofHorse(0, 2), 0);
+        Due.is("WEAR of the last", g.ofHorse(7, 2), 0);
+        Due.is("TIRED of the first", g.ofBoy(0, 1), 0);
+        Due.is("TIRED of the last", g.ofBoy(5, 1), 0);
+        g.nail(0, 1);
+        g.nail(7, 1);
+        g.undo();
+        g.undo();
+        Due.is("SHIFT of the first", g.ofHorse(0, 1), 0);
+        Due.is("SHIFT of the last", g.ofHorse(7, 1), 0);
     }
 
     // ==== ROCKS, MOUNTS, OFF, OILED, NAILED

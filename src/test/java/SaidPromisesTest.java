@@ -186,6 +186,31 @@ public final class SaidPromisesTest {
         Due.is("the next is the first", Due.text(g, "seen 1;"), 0);
     }
 
+    static void promise07FaultLeavesNothing() {
+        Said.at("7", "NONE: it has a FAULT;");
+        RockingGuard g = new RockingGuard();
+        for (int i = 0; i < 3; i++) {
+            Due.is("a FAULT at its end", Due.text(g, "boy 1;boy 2;wears 1;tires 2;seen -5" + "+1".repeat(120) + ";x"), -1);
+        }
+        Due.is("a FAULT behind a minus", Due.text(g, "seen -5 x"), -1);
+        Due.rule(g, "seen 5;");
+        Due.is("seen", g.is(5), 5);
+        g.horse(1, 0);
+        g.boy(5);
+        g.mount(0, 0);
+        g.minute(1);
+        Due.is("TIRED without that law", g.ofBoy(0, 1), 1);
+        Due.is("nothing is PLAYED", g.played(0), -1);
+        Due.is("one boy", g.about(1), 1);
+        Due.is("one more FAULT", Due.text(g, "seen 9;boy 7;x"), -1);
+        Due.is("THE TEXT is as it was", g.is(5), 5);
+        Due.rule(g, "boy 9;seen 1" + "+1".repeat(80) + ";");
+        Due.is("seen", g.is(5), 81);
+        Due.is("its CLAUSES alone", g.played(1), -1);
+        Due.is("one boy more", g.about(1), 2);
+        Due.is("SIZE", g.ofBoy(1, 0), 9);
+    }
+
     static void promise07Four() {
         Said.at("7", "or (the tape stays) there are 4.");
         RockingGuard g = new RockingGuard();

@@ -187,6 +187,22 @@ public final class SaidThreeTest {
         Due.is("none is written down", g.book(-1, 0), 0);
     }
 
+    static void foretoldByTheText() {
+        Said.at("III", "nothing else being done: SNOW, WEAR of a HORSE, TIRED of a boy.");
+        RockingGuard g = Scene.horses(1, 9);
+        g.boy(4);
+        g.boy(6);
+        g.mount(0, 0);
+        g.mount(1, 1);
+        Due.rule(g, "wears size;tires size-beat horse/9-3;");
+        Due.is("WEAR by SIZE 4", g.foretold(2, 1, 0), 8);
+        Due.is("WEAR by SIZE 6", g.foretold(2, 1, 1), 6);
+        Due.is("TIRED: 4 - 0 - 3 each", g.foretold(2, 2, 0), 2);
+        Due.is("TIRED: 6 - 1 - 3 each", g.foretold(2, 2, 1), 4);
+        g.limit(2);
+        Due.is("LIMIT as now", g.foretold(1, 0, 0), 0);
+    }
+
     static void firstSlideWithin60() {
         Said.at("III", "FIRST SLIDE: in how many MINUTES (60 at most); none.");
         RockingGuard g = Scene.ridden(9, 8);
@@ -377,6 +393,11 @@ public final class SaidThreeTest {
         Due.is("SURE of no sets", g.rode(1), 0);
         Due.is("NEVER of no sets", g.rode(2), 0);
         Due.is("no HORSES", new RockingGuard().rode(2), 0);
+        RockingGuard one = Scene.horses(1);
+        one.heard(0, 1);
+        Due.is("SURE", one.rode(1), 1);
+        one.heard(1, 0);
+        Due.is("SURE of no sets, whatever was asked before", one.rode(1), 0);
     }
 
     static void listenWithinN() {

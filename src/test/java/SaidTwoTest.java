@@ -43,6 +43,13 @@ public final class SaidTwoTest {
         sound("");
         sound(" ".repeat(294) + "boy 9;");
         sound("seen 1" + "+1".repeat(146) + " ;");
+        // As many TOKENS as there can be, and the last byte one that asks for the next.
+        Due.fault(";".repeat(300), 1, 0);
+        Due.fault("seen 1" + "+1".repeat(146) + "+<", 1, 299);
+        Due.fault("seen if 1" + " ".repeat(290) + "<", 1, 300);
+        Due.fault("seen if 1" + " ".repeat(290) + ">", 1, 300);
+        Due.fault("boy " + "1".repeat(296), 2, 4);
+        Due.fault("boy 1" + " ".repeat(294) + "x", 1, 299);
         RockingGuard g = new RockingGuard();
         for (int i = 0; i < 15; i++) g.feed(0, 0, 0, 0, 0);
         Due.is("not one more", g.feed(0, 0, 0, 0, 0), -1);
@@ -102,6 +109,10 @@ public final class SaidTwoTest {
         Due.fault("seen if 1>== 2 then 1 else 2 end;", 1, 11);
         Due.fault("seen if 1=<2 then 1 else 2 end;", 1, 10);
         Due.fault("seen if 1=>2 then 1 else 2 end;", 1, 10);
+        Due.fault("seen if 1==2 then 1 else 2 end;", 1, 10);
+        Due.fault("seen if 1#=2 then 1 else 2 end;", 1, 10);
+        Due.fault("seen 1+=2;", 1, 7);
+        Due.fault("seen if 1<>2 then 1 else 2 end;", 1, 10);
         for (String none : new String[] {"!", "$", "&", "'", ",", ".", ":", "?", "^", "_", "~", "%", "|"}) Due.fault("seen 1" + none + "1;", 1, 6);
     }
 
@@ -645,6 +656,10 @@ public final class SaidTwoTest {
         Due.fault("seen ((((((((if 1<2 then 1 else 2 end))))))));", 3, 13);
         sound("seen ((((((if not 1<2 then 1 else 2 end))))));");
         Due.fault("seen (((((((if not 1<2 then 1 else 2 end)))))));", 3, 15);
+        sound("seen if not not not not not not not 1<2 then 1 else 2 end;");
+        Due.fault("seen if not not not not not not not not 1<2 then 1 else 2 end;", 3, 36);
+        Due.fault("seen if not not not not not not not 1<(2) then 1 else 2 end;", 3, 38);
+        Due.fault("seen if not not not not not not not -1<2 then 1 else 2 end;", 3, 36);
         Due.fault("seen (((((((if 1<(2) then 1 else 2 end)))))));", 3, 17);
         Due.fault("seen (((((((if 1<2 then (1) else 2 end)))))));", 3, 24);
         Due.fault("seen (((((((if 1<2 then 1 else (2) end)))))));", 3, 31);
