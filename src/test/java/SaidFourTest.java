@@ -471,6 +471,16 @@ public final class SaidFourTest {
         Due.is("WEAR, riders aside", worn.lonely(), -1);
     }
 
+    /** As of SAFE: the 60 MINUTES go on past 9999. */
+    static void lonelyPast9999() {
+        Said.at("IV", "in the next 60 MINUTES (this one, too);");
+        RockingGuard g = Scene.horses(2, 2);
+        Scene.pass(g, 9999);
+        Due.is("both are due behind 9999", g.lonely(), -1);
+        g.nail(1, 1);
+        Due.is("never together", g.lonely(), 0);
+    }
+
     static void lonelyLowest() {
         Said.at("IV", "of like ones the lowest; none.");
         RockingGuard g = new RockingGuard();

@@ -295,6 +295,16 @@ public final class SaidThreeTest {
         Due.is("one that is worn out, one without a boy", g.safe(1, 2), 1);
     }
 
+    /** The document tells no end of the n MINUTES but n: BEAT and SHIFT alone go on past 9999. */
+    static void safePast9999() {
+        Said.at("III", "in none of n (1 .. 99) MINUTES from this one on");
+        RockingGuard g = Scene.horses(2, 2);
+        g.nail(1, 1);
+        Scene.pass(g, 9999);
+        Due.is("9999 alone", g.safe(1, 1), 1);
+        Due.is("9999 and the one behind it", g.safe(2, 1), 0);
+    }
+
     static void safeLowest() {
         Said.at("III", "of like ones the lowest set.");
         RockingGuard g = new RockingGuard();
@@ -417,6 +427,15 @@ public final class SaidThreeTest {
         g.heard(3, 1);
         // HORSE 1 rode: at 5 HORSE 0 tells, at 59, too.
         Due.is("of these sets", g.listen(60), 1);
+    }
+
+    /** As of SAFE: the n MINUTES go on past 9999. */
+    static void listenPast9999() {
+        Said.at("III", "LISTEN: of the n MINUTES (1 .. 60) from this one on");
+        RockingGuard g = Scene.horses(2);
+        Scene.pass(g, 9999);
+        Due.is("9999 alone", g.listen(1), 0);
+        Due.is("9999 and the one behind it", g.listen(2), 1);
     }
 
     static void listenSoonest() {
